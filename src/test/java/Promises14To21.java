@@ -51,6 +51,7 @@ public final class Promises14To21 {
         fault(x, "lean 100;", 5);
         fault(x, "lean -100;", 6);
         fault(x, "rate 1;bar 100;", 11);
+        fault(x, "rate 100;", 5);
         fault(x, "late 6;", 5);
         fault(x, "late -1;", 5);
         fault(x, "most -0;", 5);
@@ -90,6 +91,14 @@ public final class Promises14To21 {
         fault(x, "bar -", 5);
         fault(x, "bar", 3);
         fault(x, "bar 5;late", 10);
+        // What THE TEXT had before is not read on behind its end, nor anything behind all that it may have.
+        fault(x, "lean 11111", 5);
+        fault(x, "lean 1", 6);
+        fault(x, "leanlean", 0);
+        fault(x, "lean", 4);
+        fault(x, "lean" + " ".repeat(195) + "1", 200);
+        fault(x, " ".repeat(196) + "late", 200);
+        fault(x, " ".repeat(199) + "-", 199);
     }
 
     private static void state(int promise, SelfSteer x, int... want) {
@@ -154,6 +163,8 @@ public final class Promises14To21 {
         due.is(20, "the second at 101", x.at(6), 101);
         x.ticks(1);
         due.is(20, "the third at 103 and 7", x.at(6), 110);
+        due.is(17, "TICKS that it had", x.ride(1, 0, 0), 6);
+        due.is(17, "no HAND yet", x.at(6), 0);
         // NUMBERS as they are at the TICK.
         x.ride(1, 0, 0);
         x.push(100);
@@ -230,6 +241,10 @@ public final class Promises14To21 {
         x.push(1000);
         x.push(1000);
         due.is(21, "though it lies", x.bears(50), 62);
+        Due.make(x, 2, 2, 9, 9, 9, 1, 0);
+        Due.rider(x, "lean 99;");
+        x.ride(2, 3, 0);
+        due.is(21, "the least PUSH of all", x.bears(200), 1);
         for (int w : new int[] {0, -1, 201, FAR, HUGE}) due.is(21, "no n " + w, x.bears(w), -1);
     }
 

@@ -24,6 +24,12 @@ public final class Promises1To6 {
         x.push(100);
         x.ticks(1);
         due.is(1, "at(2) of BICYCLE 0", x.at(2), 45);
+        x = new SelfSteer();
+        Due.rider(x, "lean 99;");
+        x.push(10);
+        x.ticks(40);
+        due.is(1, "at SPEED 0 the lean goes alone", x.at(0), 215);
+        due.is(1, "the bar is not REVERSED", x.at(1), 266);
         due.is(1, "constants", SelfSteer.BAD * 1000 + SelfSteer.STATE * 100 + SelfSteer.FULL * 10 + SelfSteer.NONE, -1239);
         due.is(1, "NO", SelfSteer.NO, -1000000);
         SelfSteer a = new SelfSteer(), b = new SelfSteer();
@@ -92,6 +98,10 @@ public final class Promises1To6 {
         Due.make(x, 2, 1, 0, 1, 1, 1, 1);
         due.is(5, "SIGN 2 is 0", x.sign(2, 10, 0, 0, 2), 0);
         due.is(5, "stays with SIGN 2 0", x.stays(2, 10, 0, 0), 2);
+        Due.make(x, 2, 7, 0, 0, 5, 4, 6);
+        due.is(5, "SIGN 0 is 0", x.sign(2, 10, 0, 0, 0), 0);
+        due.is(5, "stays with SIGN 0 0", x.stays(2, 10, 0, 0), 1);
+        due.is(5, "stays with k 1", x.stays(2, 10, 1, 0), 0);
         Due.make(x, 2, 1, 1, 0, 1, 4, 6);
         due.is(5, "SIGN 1 is 0", x.sign(2, 6, 0, 0, 1), 0);
         due.is(5, "stays with SIGN 1 0", x.stays(2, 6, 0, 0), 2);

@@ -72,6 +72,13 @@ public final class Promises22To29 {
         due.is(25, "PLAIN with a TRAIL below 0", x.score(1, 2), speeds - 6);
         due.is(25, "NEITHER", x.score(4, 2), 2 * (speeds - flat) + 9);
         due.is(25, "REVERSED below 0", x.score(5, 3), -8);
+        // 26 SPEEDS, 23 without TRAIL; 14 SPEEDS, none without SPIN, though 11 with 1 of it.
+        Due.make(x, 3, 8, 4, 3, 3, 5, 7);
+        due.is(25, "UNTRAILED", x.score(3, 3), 3);
+        due.is(25, "twice 3, and 8", x.score(4, 3), 14);
+        Due.make(x, 3, 7, 5, 2, 5, 4, 6);
+        due.is(25, "UNSPUN", x.score(2, 3), 14);
+        trace += 1001 + 11001 + 101;
         due.is(25, "LOADED", x.score(6, 2), speeds * 3);
         trace += 11 + 11001 + 100001 + 1000001;
         due.is(29, "trace", x.trace(), trace);
@@ -80,41 +87,49 @@ public final class Promises22To29 {
         due.is(29, "trace as before", x.trace(), trace);
     }
 
+    private static int[] state(SelfSteer x) {
+        int[] state = new int[7];
+        for (int what = 0; what < 7; what++) state[what] = x.at(what);
+        return state;
+    }
+
     private static void images() {
         SelfSteer x = new SelfSteer();
-        Due.rider(x, "lean 20;late 3;");
+        Due.rider(x, "lean 20;rate 30;bar 40;late 3;");
+        Due.make(x, 1, 7, 3, 2, 5, 4, 6);
         x.ride(1, 6, 1);
         x.push(100);
         x.ticks(5);
         x.weeks(1, 2);
         due.is(26, "keep", x.keep(1), 5);
         due.is(27, "none in 0", x.back(0), SelfSteer.STATE);
-        int[] kept = new int[7];
-        for (int what = 0; what < 7; what++) kept[what] = x.at(what);
+        int[] kept = state(x);
         x.ticks(1);
-        int next = x.at(6), nextBar = x.at(3);
+        int[] next = state(x);
         x.score(0, 0);
         x.weeks(1, 50);
         x.tune(0, 7);
         x.number(1, 5, 4);
-        Due.rider(x, "lean 20;late 3;most 900;");
+        Due.rider(x, "lean 20;rate 30;bar 40;late 3;most 900;");
         Due.type(x, "abc");
         x.ride(2, 9, 0);
+        x.push(300);
+        due.is(26, "other TICKS", x.ticks(8), 8);
         x.push(1000);
         x.push(1000);
-        due.is(26, "keep what lies", x.keep(0), 0);
+        due.is(26, "keep what lies", x.keep(0), 8);
         due.is(27, "back", x.back(1), 5);
         for (int what = 0; what < 7; what++) due.is(27, "at(" + what + ")", x.at(what), kept[what]);
         habits(27, x, 94, 10);
         due.is(27, "REVERSED was not 100 yet: UP is 7 still", x.habit(1, 1), 13);
-        due.is(27, "NUMBERS are not kept", x.number(1, 5, 3), 4);
-        due.is(27, "nor THE RIDER", x.count(0), 3);
+        due.is(27, "NUMBERS are not kept", x.number(1, 5, 6), 4);
+        due.is(27, "nor THE RIDER", x.count(0), 5);
         due.is(27, "nor THE TEXT", x.count(1), 3);
         due.is(27, "nor THE TRACE", x.trace(), 1);
         x.ticks(1);
-        due.is(27, "what was 3 TICKS ago is kept, and the bar", x.at(6), next);
-        due.is(27, "and the BICYCLE and its SPEED", x.at(3), nextBar);
-        due.is(27, "back to 0", x.back(0), 0);
+        // What was 3 TICKS ago is kept, too, and the BICYCLE, its SPEED and its bar.
+        for (int what = 0; what < 7; what++) due.is(27, "then at(" + what + ")", x.at(what), next[what]);
+        due.is(27, "back to 0", x.back(0), 8);
         due.is(27, "it lies", x.at(5), 1);
         habits(27, x, 0, 100);
         due.is(27, "back twice", x.back(1), 5);
@@ -130,6 +145,8 @@ public final class Promises22To29 {
         due.is(28, "13", x.count(2), 13);
         Due.make(x, 3, 6, -3, 4, 6, 7, 3);
         due.is(28, "13 and 3", x.count(2), 16);
+        Due.make(x, 0, 6, -3, 4, 6, 7, 3);
+        due.is(28, "13 and 3 and 3", x.count(2), 19);
         Due.type(x, "bar 5; late 1;");
         due.is(28, "bytes", x.count(1), 14);
         due.is(28, "no ITEMS yet", x.count(0), 0);

@@ -45,6 +45,8 @@ public final class Promises7To13 {
         Due.make(x, 3, 9, -6, 7, 3, 6, 3);
         due.is(8, "7 would be too much", x.reason(3, 2, 1), NO);
         due.is(8, "the BICYCLE is as it was", x.has(3, 1) * 100 + x.has(3, 2), -593);
+        Due.make(x, 3, 9, 0, 7, 1, 2, 7);
+        due.is(8, "without FRONT there is none, with 1 of it there is", x.reason(3, 2, 0), 1);
         // No RANGE, with it or without: it does not hold.
         due.is(8, "no RANGE at all", new SelfSteer().reason(0, 1, 0), 0);
         for (int w : new int[] {-1, 4, FAR, HUGE}) due.is(8, "no BICYCLE " + w, x.reason(w, 0, 0), NO);
@@ -103,6 +105,8 @@ public final class Promises7To13 {
         due.is(11, "-2 at 12", x.least(3, 12, 5), -2);
         Due.make(x, 3, 9, 9, -9, 9, 9, 9);
         due.is(11, "SIGN 0 asks for 9 at least", x.least(3, 30, 0), 9);
+        Due.make(x, 3, 5, 2, -3, 6, 6, 9);
+        due.is(11, "all that may be done", x.least(3, 1, 65), 99);
         for (int w : new int[] {-1, 4, FAR, HUGE}) due.is(11, "no BICYCLE " + w, x.least(w, 8, 0), NO);
         for (int w : new int[] {-1, 41, FAR, HUGE}) due.is(11, "no SPEED " + w, x.least(0, w, 0), NO);
         for (int w : new int[] {-100, 100, FAR, HUGE}) due.is(11, "no m " + w, x.least(0, 8, w), NO);
